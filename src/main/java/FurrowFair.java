@@ -1414,9 +1414,9 @@ public final class FurrowFair {
 
         int firstOffer() {
             for (int mark = 0; mark < market.marks; mark++) {
-                // Who pays more than the best work is worth earns nothing.
-                int worthwhile = Math.min(MOST_PAY, market.mostWorth() + market.use[mark]);
-                for (int offer = 0; offer <= worthwhile; offer++) {
+                // Who pays as much as the best work is worth, or more, earns nothing.
+                int earnsNothing = market.mostWorth() + market.use[mark];
+                for (int offer = 0; offer < earnsNothing; offer++) {
                     if (earned(mark, offer) > 0) {
                         return 10000 * mark + offer;
                     }

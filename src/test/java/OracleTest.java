@@ -758,6 +758,10 @@ public final class OracleTest {
             due("all0", x.all(0), m.sures());
             due("restore", x.restore(), image.S());
             compareTold(x, image);
+            now = "market " + i + " restored " + image.text() + " rate " + image.rate;
+            compareFit(x, image, someFit(image));
+            compareLine(x, image);
+            due("all1", x.all(1), image.allOpen().sures());
             due("rate", x.rate(0), image.rate);
         }
         System.out.println(wrong == 0 ? compared + " answers are as due" : wrong + " of " + compared + " answers are not as due");

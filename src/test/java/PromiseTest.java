@@ -292,6 +292,10 @@ public final class PromiseTest {
         x.cost(2, 2, 28);
         due(14, "less", x.barred(0, 2, 2), 1);
         due(13, "all barred", x.falls(0), -4);
+        FurrowFair worthless = fair("s100 0 0;m0 0;m0 1;");
+        due(14, "the most is 0 less 1", worthless.barred(0, 1, 0), 1);
+        worthless.cost(1, 0, 0);
+        due(14, "the most is 0", worthless.barred(0, 1, 0), 0);
         // The first such sort, though its own work is worth less.
         x.cost(2, 2, 20);
         x.cost(2, 0, 26);
@@ -461,6 +465,14 @@ public final class PromiseTest {
         due(25, "45 - 46 is not above 0", x.broken(2), -4);
         line(x, 3, 26, 0);
         due(24, "a mean of 25 against 26", x.loses(3), 0);
+        FurrowFair few = fair("s1 40 0;s99 10 0;m0 0 0;m0 0 999;");
+        line(few, 3, 11, 38);
+        due(24, "99 too much", few.loses(3), 0);
+        line(few, 3, 0, 41);
+        due(24, "1 too much", few.loses(3), 1);
+        line(few, 3, 0, 38);
+        few.cost(0, 1, 999);
+        due(25, "1 is earned", few.broken(3), 39);
         line(x, 3, 1999, 0);
         due(24, "1999", x.loses(3), 0);
         line(x, 3, 2000, 0);
@@ -553,6 +565,7 @@ public final class PromiseTest {
         due(30, "over one year", x.ratherOver(5, 1), -4);
         due(30, "over three years", x.ratherOver(5, 3), 1);
         due(30, "the least mark", x.ratherOver(24, 12), 0);
+        due(30, "at once it is sure again", x.rather(5), -4);
         due(30, "no years", x.ratherOver(5, 0), -1);
         due(30, "too many", x.ratherOver(5, 13), -1);
         due(30, "no fit", x.ratherOver(2, 1), -1);
@@ -711,6 +724,11 @@ public final class PromiseTest {
         due(42, "no shelf", x.copy(-1, 0, 0, 0, 1), -1);
         due(40, "a fit", x.put(3, 0, 1), -12);
         due(41, "a fit", thrownBy(x, 3, 0), 2);
+        x.row(5, 0, 120);
+        x.keep(5, 1, 0, 0);
+        due(38, "a fit in place of a row", x.put(5, 0, 1), -12);
+        due(38, "a fit in place of a row", x.market(5), -12);
+        due(38, "a fit in place of a row", thrownBy(x, 5, 0), 2);
         x.keep(0, 0, 0, 0);
         due(38, "nothing is held", x.put(0, 0, 1), -11);
     }
