@@ -7,7 +7,7 @@ public final class PromiseTest {
 
     /** Two sorts; mark 0 is free, mark 1 costs the better sort 80. */
     static final String PAIR = "s50 100 0;s50 200 0;m0 0 0;m0 150 80;";
-    /** Three sorts, of which all in mark 0 and all in mark 1 are sure. */
+    /** Three sorts. Fits 0 (all in mark 0) and 50 (the best in mark 2) are sure. */
     static final String THREE = "s30 9 0;s30 19 0;s40 59 5;m0 0 0 0;m0 30 20 10;m0 60 45 20;";
 
     static void due(int promise, String call, long got, long want) {
@@ -528,7 +528,7 @@ public final class PromiseTest {
         due(27, "all", x.run(0, 99, 7, 0), 99);
         due(27, "away", x.run(24, 99, LOW, 4), 99);
         due(27, "nobody", x.run(5, 50, 7, 4), 0);
-        // 7 becomes 1103515245 * 7 + 12345 = -865327828 (an int): without the sign 1282155820, over 65536 19564: 64.
+        // 7 becomes 1103515245 * 7 + 12345 = -865315532 (an int): without the sign 1282168116, over 65536 19564: 64.
         due(27, "one from 7 is sort 1", x.run(5, 1, 7, 1), 1);
         due(27, "no folk", x.run(5, 0, 7, 1), -1);
         due(27, "too many", x.run(5, 100, 7, 1), -1);
