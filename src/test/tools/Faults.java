@@ -136,6 +136,7 @@ public final class Faults {
             answers.add(pool.submit(() -> found(lines, faults.get(number), number, tests)));
         }
         TreeMap<String, Integer> counts = new TreeMap<>();
+        TreeMap<String, Integer> company = new TreeMap<>();
         int compiled = 0;
         int missed = 0;
         for (int i = 0; i < faults.size(); i++) {
@@ -148,10 +149,12 @@ public final class Faults {
             }
             for (String t : told == null ? new TreeSet<String>() : told) {
                 counts.merge(t, 1, Integer::sum);
+                company.merge(t, told.size(), Math::min);
             }
         }
         pool.shutdown();
-        counts.forEach((k, v) -> System.out.println("found " + v + " times by " + k));
+        // A fault in the reading fails all sentences: who fails in small company only tells that its own is looked at.
+        counts.forEach((k, v) -> System.out.println("found " + v + " times, among " + company.get(k) + " at the least, by " + k));
         System.out.println(compiled + " faults, " + missed + " missed");
     }
 }
