@@ -6,6 +6,8 @@ public final class RoomTest extends Sentences {
     static final ThreadMXBean THREADS = (ThreadMXBean) ManagementFactory.getThreadMXBean();
     static final int NEW_OBJECT = 8192;
     static final int HELD_FIT = 64;
+    /** An exception holds where it was thrown. */
+    static final int THROWN = 4096;
     static final int NOTHING = 0;
 
     interface Call {
@@ -87,6 +89,8 @@ public final class RoomTest extends Sentences {
             takes("keep of kind " + k, () -> x.keep(3, 1, k, 430), HELD_FIT);
             takes("breadth of kind " + k, () -> x.breadth(3), NOTHING);
         }
+        takes("toss", () -> x.toss(3), THROWN);
+        takes("element refused", () -> element(x, 2, 120), THROWN);
         takes("toss without a failure", () -> x.toss(5), NOTHING);
         takes("keep nothing", () -> x.keep(3, 0, 0, 0), NOTHING);
     }
